@@ -8,6 +8,7 @@ public final class ChallengeTest {
         promise12Borne(due);
         promise12Open(due);
         promise12Forty(due);
+        anotherYear(due);
         promise13(due);
         promise14(due);
         judgements(due);
@@ -79,15 +80,38 @@ public final class ChallengeTest {
         court.begin();
         for (int number = 0; number < 40; number++) {
             due.is("12: number", court.challenge(0, 1), number);
-            court.pass(1);
+            if (number < 39) {
+                court.pass(1);
+            }
         }
-        due.is("12: there were 40", court.challenge(0, 1), -1);
+        court.answer(39, true);
+        due.is("12: there were 40, and y has borne", court.challenge(1, 0), -1);
+        due.is("12: x bears nothing", court.challenge(0, 1), -1);
         due.is("12: told of the last", court.told(39, 3), 39);
         court.end();
         court.begin();
         due.is("12: a new year", court.challenge(0, 1), 0);
         court.answer(0, true);
         due.is("12: borne", court.challenge(1, 0), -3);
+    }
+
+    /** What was borne and sworn in a year is forgotten in the next. */
+    private static void anotherYear(Due due) {
+        BurdenCourt court = Due.court("burden A cost 10 share 1;answer 4;swear 4;");
+        Due.men(court, 30, 25);
+        for (int year = 0; year < 2; year++) {
+            court.begin();
+            int x = court.place(0, 1);
+            due.is("12: the bearer in " + year, x, year);
+            due.is("12: who bore in another year", court.challenge(x, 1 - x), 0);
+            due.is("13: change", court.answer(0, false), true);
+            due.is("14: x in " + year, court.swear(0, true), true);
+            due.is("14: one oath is not enough in " + year, court.told(0, 4), 1);
+            due.is("14: y in " + year, court.swear(0, false), true);
+            due.is("14: both in " + year, court.told(0, 4), 3);
+            court.end();
+            due.is("14: the greater estate went over in " + year, Due.look(court, 1 - x, 0), 30);
+        }
     }
 
     private static void promise13(Due due) {
