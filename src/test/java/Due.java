@@ -20,6 +20,23 @@ final class Due {
         is(call, got ? 1 : 0, want ? 1 : 0);
     }
 
+    void is(String call, String got, String want) {
+        checked++;
+        if (!got.equals(want)) {
+            wrong++;
+            System.out.println(call + "\n  told:   " + got + "\n  due is: " + want);
+        }
+    }
+
+    /** The fault of a text that is all the statutes of a new court; kind 0: it has none. */
+    void fault(String text, int kind, int place) {
+        BurdenCourt court = new BurdenCourt();
+        int answer = statutes(court, text);
+        is("statutes of '" + text + "' has a fault", answer == -1, kind != 0);
+        is("fault 0 of '" + text + "'", court.fault(0), kind);
+        is("fault 1 of '" + text + "'", court.fault(1), kind == 0 ? -1 : place);
+    }
+
     void finish() {
         System.out.println(checked + " answers, " + wrong + " wrong");
         if (wrong != 0 || checked == 0) {
@@ -61,6 +78,32 @@ final class Due {
         for (int coins : declared) {
             court.man(coins, 0);
         }
+    }
+
+    /** All that the face tells without changing anything. */
+    static String picture(BurdenCourt court) {
+        StringBuilder told = new StringBuilder("counts");
+        for (int what = 0; what < 6; what++) {
+            told.append(' ').append(court.count(what));
+        }
+        told.append(", fault ").append(court.fault(0)).append(' ').append(court.fault(1));
+        for (int man = 0; man < court.count(0); man++) {
+            told.append(", man ").append(man);
+            for (int what = 0; what < 6; what++) {
+                told.append(' ').append(look(court, man, what));
+            }
+        }
+        for (int place = 0; place < court.count(1); place++) {
+            told.append(", place ").append(place).append(' ').append(court.place(place, 0));
+            told.append(' ').append(court.place(place, 1)).append(' ').append(court.part(place));
+        }
+        for (int challenge = 0; challenge < court.count(4); challenge++) {
+            told.append(", challenge ").append(challenge);
+            for (int what = 0; what < 6; what++) {
+                told.append(' ').append(court.told(challenge, what));
+            }
+        }
+        return told.toString();
     }
 
     private static int word(String text, int from) {

@@ -89,40 +89,32 @@ public final class TextTest {
         due.is("4: sound", court.fault(1), -1);
     }
 
-    private static void fault(Due due, String text, int kind, int place) {
-        BurdenCourt court = new BurdenCourt();
-        int answer = Due.statutes(court, text);
-        due.is("statutes of '" + text + "' has a fault", answer == -1, kind != 0);
-        due.is("fault 0 of '" + text + "'", court.fault(0), kind);
-        due.is("fault 1 of '" + text + "'", court.fault(1), kind == 0 ? -1 : place);
-    }
-
     private static void tokens(Due due) {
-        fault(due, "burdenAcost1share1;free0floor", 1, 24);
-        fault(due, "burdenAcost1share1;free0;", 0, 0);
-        fault(due, "\n free\n\n0007 ;\n", 0, 0);
-        fault(due, "\tfree 1;", 1, 0);
-        fault(due, "free\r1;", 1, 4);
-        fault(due, "freefree 1;", 1, 0);
-        fault(due, "fre 1;", 1, 0);
-        fault(due, "frei 1;", 1, 0);
-        fault(due, "Free 1;", 1, 0);
-        fault(due, "share 1;", 1, 0);
-        fault(due, ";", 1, 0);
-        fault(due, "5;", 1, 0);
-        fault(due, "A", 1, 0);
-        fault(due, "free ;", 1, 5);
-        fault(due, "free -1;", 1, 5);
-        fault(due, "free 1 2;", 1, 7);
-        fault(due, "free 1;;", 1, 7);
-        fault(due, "burden a cost 1 share 1;", 1, 7);
-        fault(due, "burden AB cost 1 share 1;", 1, 8);
-        fault(due, "burden G cost 1 share 1;", 1, 7);
-        fault(due, "burden @ cost 1 share 1;", 1, 7);
-        fault(due, "burden A share 1 cost 1;", 1, 9);
-        fault(due, "burden A cost 1 free 1;", 1, 16);
-        fault(due, "burden A cost 1;", 1, 15);
-        fault(due, "free 1\u00e9;", 1, 6);
+        due.fault("burdenAcost1share1;free0floor", 1, 24);
+        due.fault("burdenAcost1share1;free0;", 0, 0);
+        due.fault("\n free\n\n0007 ;\n", 0, 0);
+        due.fault("\tfree 1;", 1, 0);
+        due.fault("free\r1;", 1, 4);
+        due.fault("freefree 1;", 1, 0);
+        due.fault("fre 1;", 1, 0);
+        due.fault("frei 1;", 1, 0);
+        due.fault("Free 1;", 1, 0);
+        due.fault("share 1;", 1, 0);
+        due.fault(";", 1, 0);
+        due.fault("5;", 1, 0);
+        due.fault("A", 1, 0);
+        due.fault("free ;", 1, 5);
+        due.fault("free -1;", 1, 5);
+        due.fault("free 1 2;", 1, 7);
+        due.fault("free 1;;", 1, 7);
+        due.fault("burden a cost 1 share 1;", 1, 7);
+        due.fault("burden AB cost 1 share 1;", 1, 8);
+        due.fault("burden G cost 1 share 1;", 1, 7);
+        due.fault("burden @ cost 1 share 1;", 1, 7);
+        due.fault("burden A share 1 cost 1;", 1, 9);
+        due.fault("burden A cost 1 free 1;", 1, 16);
+        due.fault("burden A cost 1;", 1, 15);
+        due.fault("free 1\u00e9;", 1, 6);
     }
 
     private static void bounds(Due due) {
@@ -132,31 +124,31 @@ public final class TextTest {
         int[] most = {9, 100000, 60, 60, 10000, 4};
         for (int i = 0; i < words.length; i++) {
             int at = words[i].length();
-            fault(due, words[i] + most[i] + tails[i], 0, 0);
-            fault(due, words[i] + least[i] + tails[i], 0, 0);
-            fault(due, words[i] + (most[i] + 1) + tails[i], 2, at);
-            fault(due, words[i] + "4294967297" + tails[i], 2, at);
-            fault(due, words[i] + "18446744073709551617" + tails[i], 2, at);
-            fault(due, words[i] + "000000000000000000001" + tails[i], 0, 0);
+            due.fault(words[i] + most[i] + tails[i], 0, 0);
+            due.fault(words[i] + least[i] + tails[i], 0, 0);
+            due.fault(words[i] + (most[i] + 1) + tails[i], 2, at);
+            due.fault(words[i] + "4294967297" + tails[i], 2, at);
+            due.fault(words[i] + "18446744073709551617" + tails[i], 2, at);
+            due.fault(words[i] + "000000000000000000001" + tails[i], 0, 0);
             if (least[i] > 0) {
-                fault(due, words[i] + (least[i] - 1) + tails[i], 2, at);
+                due.fault(words[i] + (least[i] - 1) + tails[i], 2, at);
             }
         }
     }
 
     private static void firstFault(Due due) {
-        fault(due, "free", 1, 4);
-        fault(due, "free  \n", 1, 7);
-        fault(due, "burden", 1, 6);
-        fault(due, "burden A", 1, 8);
-        fault(due, "burden A cost 0", 2, 14);
-        fault(due, "free 10 x", 2, 5);
-        fault(due, "free x 10", 1, 5);
-        fault(due, "free 1;swear 1;free 1;", 3, 15);
-        fault(due, "floor 1;floor", 3, 8);
-        fault(due, "answer 1;answer 99;", 3, 9);
-        fault(due, "swear 1;swear 1;", 3, 8);
-        fault(due, "burden B cost 1 share 1;burden A cost 1 share 1;burden B", 3, 55);
-        fault(due, "burden A cost 1 share 1;burden B cost 1 share 1;", 0, 0);
+        due.fault("free", 1, 4);
+        due.fault("free  \n", 1, 7);
+        due.fault("burden", 1, 6);
+        due.fault("burden A", 1, 8);
+        due.fault("burden A cost 0", 2, 14);
+        due.fault("free 10 x", 2, 5);
+        due.fault("free x 10", 1, 5);
+        due.fault("free 1;swear 1;free 1;", 3, 15);
+        due.fault("floor 1;floor", 3, 8);
+        due.fault("answer 1;answer 99;", 3, 9);
+        due.fault("swear 1;swear 1;", 3, 8);
+        due.fault("burden B cost 1 share 1;burden A cost 1 share 1;burden B", 3, 55);
+        due.fault("burden A cost 1 share 1;burden B cost 1 share 1;", 0, 0);
     }
 }
